@@ -119,10 +119,32 @@ public final class PromiseTests {
         Due.is("no rock: told(0)", x.told(0), 0);
         Due.is("no rock: told(7)", x.told(7), NONE);
         Due.is("no rock: place(0, 0)", x.place(0, 0), UNKNOWN);
+        threeRocks();
         Due.rock("     ", 0);
         Due.rock("place9 9 9;place   009 018 0;way0 1;", 2);
         Due.rock("  turn  1 , 2 ;  place 1  2   3 ; push 0 0 0 ; ", 1);
         Due.rock("turn 1,2,3,4,5,6,7,8,9,10,11,12;turn 0,18;turn 018,000;", 0);
+    }
+
+    /** What an earlier rock left must not be seen in a later one, nor an earlier text behind the end of a later. */
+    private static void threeRocks() {
+        TumblingRock x = rockAsTold();
+        x.knock(1, 1);
+        x.go(1);
+        x.stay(8);
+        Due.feed(x, "turn 1,2,3,4,5,6,7;turn 1,2,3;turn 1,2;place 1 1 1;");
+        Due.is("second rock()", x.rock(), 1);
+        int[] second = {3, 1, 0, 0, 0, 42, 0, 0, 0, 0, 0, 1};
+        for (int w = 0; w < second.length; w++) Due.is("second rock: told(" + w + ")", x.told(w), second[w]);
+        for (int i = 0; i < 3; i++) Due.is("second rock: SHIFT", x.turning(i, 1), 0);
+        Due.feed(x, "place 1 1 1;place 1 1 1;place 1 1 1;");
+        Due.is("third rock()", x.rock(), 3);
+        int[] third = {0, 3, 0, 0, 0, 1, 0, 0, 0, 0, 0, 0};
+        for (int w = 0; w < third.length; w++) Due.is("third rock: told(" + w + ")", x.told(w), third[w]);
+        for (int p = 0; p < 3; p++) Due.is("third rock: ways", x.place(p, 3), 0);
+        Due.feed(x, "place 1 1 1");
+        Due.is("rock() with an old ';' behind its end", x.rock(), -11);
+        Due.is("fault()", x.fault(), 11);
     }
 
     private static void fault(String text, int number, int at) {
@@ -137,6 +159,10 @@ public final class PromiseTests {
         fault("x", 1, 0);
         fault("  turns 1,2;", 1, 2);
         fault("tur", 1, 0);
+        fault("xurn 1,2;", 1, 0);
+        fault("turm 1,2;", 1, 0);
+        fault("xlace 1 1 1;", 1, 0);
+        fault("puss 1 1 1;", 1, 0);
         fault("Turn 1,2;", 1, 0);
         fault("turN 1,2;", 1, 0);
         fault("turnX 1,2;", 1, 4);
@@ -225,6 +251,7 @@ public final class PromiseTests {
         int[] want = {2, 4, 2, 4, 3, 12, 2, 1, 1, 1, 2, 0b1010};
         for (int w = 0; w < want.length; w++) Due.is("told(" + w + ")", x.told(w), want[w]);
         for (int w : new int[] {-1, 12, LEAST, MOST}) Due.is("told(" + w + ")", x.told(w), OUTSIDE);
+        Due.is("where, of a single place", Due.rock("place 9 9 9;", 1).told(7), 0);
         Due.is("PERIOD of 2, 4 and 8", Due.rock("turn 0,0;turn 0,0,0,0;turn 0,0,0,0,0,0,0,0;", 0).told(5), 8);
         Due.is("PERIOD of 9, 10 and 11", Due.rock("turn 1,1,1,1,1,1,1,1,1;turn 1,1,1,1,1,1,1,1,1,1;"
             + "turn 1,1,1,1,1,1,1,1,1,1,1;", 0).told(5), 990);
@@ -341,6 +368,12 @@ public final class PromiseTests {
         Due.is("knock(2, 7)", y.knock(2, 7), 3);
         Due.is("SHIFT 0", y.turning(0, 1), 0);
         Due.is("SHIFT 1", y.turning(1, 1), 0);
+        Due.is("knock(1, 1)", y.knock(1, 1), 1);
+        Due.is("SHIFT 0", y.turning(0, 1), 0);
+        Due.is("SHIFT 2", y.turning(2, 1), 3);
+        Due.is("knock(0, 1)", y.knock(0, 1), 1);
+        Due.is("SHIFT 1", y.turning(1, 1), 1);
+        Due.is("SHIFT 2", y.turning(2, 1), 3);
     }
 
     private static void push() {
@@ -377,6 +410,18 @@ public final class PromiseTests {
         Due.is("it stays", y.told(7), 0);
         Due.is("STEP goes on", y.told(6), 1);
         Due.is("three draws", y.seed(0), 654583775);
+        // seed 80 draws 3576 9900 20047: 0 of 8 (a knock), 0 of 2 TURNINGS, 3 of its 4: PLACE 0 is lit at 1 then
+        TumblingRock v = rockAsTold();
+        v.seed(80);
+        Due.is("drift(1) with a knock that shifts", v.drift(1), 1);
+        Due.is("SHIFT 0", v.turning(0, 1), 3);
+        Due.is("SHIFT 1", v.turning(1, 1), 0);
+        Due.is("it stays", v.told(7), 0);
+        Due.is("three draws", v.seed(9), 1313808495);
+        // seed 9 draws 20472 11155 11119: 0 of 8, 1 of 2 TURNINGS, 1 of its 3
+        v.drift(1);
+        Due.is("SHIFT 0", v.turning(0, 1), 3);
+        Due.is("SHIFT 1", v.turning(1, 1), 1);
         // a farm without ways stays without a draw
         TumblingRock z = Due.rock("turn 18,18;place 18 9 9;", 1);
         z.seed(1);
@@ -396,6 +441,10 @@ public final class PromiseTests {
             Due.is("next(" + w[0] + ", " + w[1] + ", 1)", x.next(w[0], w[1], 1), w[3]);
         }
         Due.is("next(0, 999999, 0)", x.next(0, 999999, 0), 1);
+        TumblingRock t = Due.rock("turn 9,9;turn 9,9,9;turn 9,9,10,9,9;place 9 9 10;", 1);
+        Due.is("the third turning: till", t.next(0, 3, 0), 4);
+        Due.is("the third turning: steps", t.next(0, 3, 1), 1);
+        Due.is("the third turning: DARK", t.place(0, 4), 4);
         TumblingRock y = Due.rock("turn 18,18,18;place 18 9 9;place 9 9 9;", 2);
         Due.is("always: till", y.next(0, 7, 0), 0);
         Due.is("always: PERIOD", y.next(0, 7, 1), 3);
@@ -457,6 +506,11 @@ public final class PromiseTests {
         Due.is("way(1, 7, 1, 0)", x.way(1, 7, 1, 0), 1);
         Due.is("way(3, 0, 40, NONE)", x.way(3, 0, 40, NONE), 30);
         Due.is("way(3, 0, 40, 40)", x.way(3, 0, 40, 40), 3);
+        Due.is("way(3, 1, 40, NONE), lit at its last", x.way(3, 1, 40, NONE), 30);
+        // lit from 3 on: 1, 0, 1, 1, and neither at 7: there the least PLACE that it may be at
+        int[] row = {0, 1, 0, 1, 1, 0};
+        Due.is("way(0, 2, 5, NONE)", x.way(0, 2, 5, NONE), 4);
+        for (int i = 0; i <= 5; i++) Due.is("way(0, 2, 5, " + i + ")", x.way(0, 2, 5, i), row[i]);
         Due.is("way(1, 999999, 1, NONE)", x.way(1, 999999, 1, NONE), 1);
         Due.is("the farm stays where it is", x.told(7), 0);
         Due.is("way(4, -1, 0, -2)", x.way(4, -1, 0, -2), UNKNOWN);
