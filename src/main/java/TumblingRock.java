@@ -612,7 +612,7 @@ public final class TumblingRock {
 
         int digit(int standing, int i) {
             int weight = at(weights, i);
-            return weight < 1 ? 0 : leftOver(standing / weight, size(i));
+            return weight < 1 ? 0 : leftOver(standing / weight, at(sizes, i));
         }
 
         int moved(int standing, int a, int b, int c) {
@@ -620,7 +620,8 @@ public final class TumblingRock {
         }
 
         int turned(int standing, int i, int by) {
-            return leftOver(digit(standing, i) + by, size(i)) * at(weights, i);
+            int weight = at(weights, i);
+            return weight < 1 ? 0 : leftOver(standing / weight + by, at(sizes, i)) * weight;
         }
 
         int knocked(int standing, int i, int k) {

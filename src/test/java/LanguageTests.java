@@ -8,7 +8,9 @@ import java.util.ArrayList;
 import java.util.Arrays;
 import java.util.HashSet;
 import java.util.List;
+import java.util.Map;
 import java.util.Set;
+import java.util.TreeMap;
 import java.util.TreeSet;
 import java.util.regex.Matcher;
 import java.util.regex.Pattern;
@@ -103,8 +105,33 @@ public final class LanguageTests {
         while (made.find()) kinds.add(made.group(1));
         kinds.removeAll(Set.of("int", "boolean", "Text", "Reader", "Rock", "Farm", "Sight", "Route", "Mender", "Book"));
         Due.isTrue("makes nothing but its own rows and parts: " + kinds, kinds.isEmpty());
-        int deepest = 0;
-        for (String method : code.split("\n    (    )?\\}\n")) deepest = Math.max(deepest, method.split("\n").length);
-        Due.isTrue("methods of some sixty lines at most: " + deepest, deepest <= 65);
+        Map<String, String> bodies = bodies(code);
+        Due.isTrue("all methods are found", bodies.keySet().containsAll(publicNames()) && bodies.containsKey("turned"));
+        for (Map.Entry<String, String> body : bodies.entrySet()) {
+            Due.isTrue(body.getKey() + " has some sixty lines at most", body.getValue().split("\n").length <= 60);
+            List<String> calls = deepest(body.getKey(), bodies, 0);
+            Due.isTrue("calls go eight deep at most, and none calls itself: " + calls, calls.size() <= 8);
+        }
+    }
+
+    /** By name, all methods and constructors; those of one name are taken as one, which can only make calls look deeper. */
+    private static Map<String, String> bodies(String code) {
+        Map<String, String> bodies = new TreeMap<>();
+        Matcher m = Pattern.compile("(?s)\n(    |        )(?:public |private |static )*(?:int |boolean |void )?(\\w+)\\([^)]*\\) \\{\n(.*?)\n\\1\\}")
+            .matcher(code);
+        while (m.find()) bodies.merge(m.group(2), m.group(3), (a, b) -> a + "\n" + b);
+        return bodies;
+    }
+
+    private static List<String> deepest(String name, Map<String, String> bodies, int depth) {
+        List<String> best = new ArrayList<>();
+        Matcher m = Pattern.compile("\\b(\\w+)\\(").matcher(bodies.get(name));
+        while (m.find() && depth < 20) {
+            if (!bodies.containsKey(m.group(1))) continue;
+            List<String> calls = deepest(m.group(1), bodies, depth + 1);
+            if (calls.size() > best.size()) best = calls;
+        }
+        best.add(0, name);
+        return best;
     }
 }
