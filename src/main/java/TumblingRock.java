@@ -914,7 +914,10 @@ public final class TumblingRock {
         }
 
         void addLit(int from, int set) {
-            for (int p = 0; p < PLACES; p++) put(lit, from + p, at(lit, from + p) + bit(set, p));
+            for (int p = 0; p < PLACES; p++) {
+                int i = from + p;
+                if (i >= 0 && i < lit.length) lit[i] += set >> p & 1;
+            }
         }
 
         void tryLook(int step, int p) {

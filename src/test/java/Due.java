@@ -4,6 +4,21 @@ final class Due {
 
     private Due() { }
 
+    /** A call that does not end is a failing test, not one that is waited for. */
+    static void watch(String name, int minutes) {
+        Thread watcher = new Thread(() -> {
+            try {
+                Thread.sleep(minutes * 60_000L);
+            } catch (InterruptedException e) {
+                return;
+            }
+            System.out.println(name + ": not at its end after " + minutes + " minutes");
+            Runtime.getRuntime().halt(1);
+        });
+        watcher.setDaemon(true);
+        watcher.start();
+    }
+
     static void is(String call, long got, long want) {
         if (got == want) {
             right++;

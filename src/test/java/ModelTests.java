@@ -18,6 +18,7 @@ public final class ModelTests {
     }
 
     public static void main(String[] args) {
+        Due.watch("ModelTests", 20);
         for (int seed = 0; seed < 400; seed++) new ModelTests(seed).run(seed);
         Due.close("ModelTests");
     }

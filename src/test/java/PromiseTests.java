@@ -11,6 +11,7 @@ public final class PromiseTests {
         + "way 0 1;way 1 2;push 1 0 0;push 0 1 0;push 3 1 7;push 4 3 5;";
 
     public static void main(String[] args) {
+        Due.watch("PromiseTests", 5);
         newObject();
         feed();
         rock();
