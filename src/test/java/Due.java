@@ -1,6 +1,11 @@
+import java.io.IOException;
+import java.nio.file.Files;
+import java.nio.file.Path;
+
 /** Counts answers that are due and says which are not; shared by the tests of this project. */
 final class Due {
     private static int right, wrong;
+    private static String document = "", sentence = "";
 
     private Due() { }
 
@@ -25,11 +30,29 @@ final class Due {
             return;
         }
         wrong++;
-        if (wrong <= 50) System.out.println(call + " answered " + got + ", due is " + want);
+        if (wrong > 50) return;
+        System.out.println((sentence.isEmpty() ? "" : "[" + sentence + "] ") + call + " answered " + got + ", due is " + want);
     }
 
     static void isTrue(String what, boolean holds) {
         is(what, holds ? 1 : 0, 1);
+    }
+
+    /** The document that the words of edge() are looked up in. */
+    static void document(String path) throws IOException {
+        document = plain(Files.readString(Path.of(path)));
+    }
+
+    /** A test of its own for words of the document: they must stand there, or the test is of nothing. */
+    static void edge(String words, Runnable test) {
+        sentence = words;
+        isTrue("these words stand in the document", document.contains(plain(words)));
+        test.run();
+        sentence = "";
+    }
+
+    private static String plain(String text) {
+        return text.replaceAll("\\s+", " ");
     }
 
     /** Feeds a text eight bytes at a time, as many as are left at the end. */
@@ -51,6 +74,15 @@ final class Due {
         feed(x, text);
         is("rock() of " + text, x.rock(), places);
         return x;
+    }
+
+    /** A text with a FAULT, on a new object. */
+    static void fault(String text, int number, int at) {
+        TumblingRock x = new TumblingRock();
+        feed(x, text);
+        is("rock() of '" + text + "'", x.rock(), -10 - number);
+        is("fault() of '" + text + "'", x.fault(), at);
+        is("the text is empty behind '" + text + "'", x.told(4), 0);
     }
 
     /** The closing line that .ci/run adds up, and the exit code. */

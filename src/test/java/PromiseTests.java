@@ -149,11 +149,7 @@ public final class PromiseTests {
     }
 
     private static void fault(String text, int number, int at) {
-        TumblingRock x = new TumblingRock();
-        Due.feed(x, text);
-        Due.is("rock() of '" + text + "'", x.rock(), -10 - number);
-        Due.is("fault() of '" + text + "'", x.fault(), at);
-        Due.is("the text is empty behind '" + text + "'", x.told(4), 0);
+        Due.fault(text, number, at);
     }
 
     private static void faultOne() {
