@@ -145,6 +145,7 @@ public final class EdgeTests {
             Due.is("where", x.told(7), 0);
             Due.is("STEP", x.told(6), 0);
             Due.is("LIGHT, though it is LIT there at 0", x.told(8), 0);
+            Due.is("where, with one PLACE alone", Due.rock("place 9 9 9;", 1).told(7), 0);
             Due.is("where, without PLACES", Due.rock("turn 0,0;", 0).told(7), NONE);
         });
         Due.edge("then STEP is one more, and LIGHT that it had one more, if it is LIT where it is then.", () -> {
@@ -274,6 +275,7 @@ public final class EdgeTests {
             }
             TumblingRock y = Due.rock("turn 8,10,8,8,10,10,8;place 10 9 9;", 1);
             Due.is("the longer of two", y.place(0, 4), 2);
+            Due.is("most of it behind the end", Due.rock("turn 8,8,8,8,8,8,8,10,8;place 10 9 9;", 1).place(0, 4), 8);
         });
         Due.edge("4 DARK, 5 LIT steps of a PERIOD.", () -> {
             Due.is("none", Due.rock("turn 8,8;place 10 9 9;", 1).place(0, 5), 0);
@@ -377,6 +379,8 @@ public final class EdgeTests {
             way(Due.rock(BRIGHT, 3), 0, 3, 2, 1, 0, 0);
             way(Due.rock("turn 8,8;place 10 9 9;place 10 9 9;place 10 9 9;way 0 1;way 1 2;", 3), 5, 0, 2, 1, 0, 0);
             way(Due.rock(BRIGHT, 3), 0, 1, 1, 0);
+            // it stays rather than go to a greater one
+            way(Due.rock("turn 10,10;place 10 9 9;place 10 9 9;place 10 9 9;way 1 2;", 3), 0, 3, 1, 1, 1, 1);
             // 3 is LIT at all, 1 and 2 at the first, 0 never: the lesser of the first steps wins, then light calls it back
             String text = "turn 10,10,10;turn 9,10,9;place 8 9 9;place 9 10 9;place 9 10 9;place 10 9 9;way 3 2;way 3 1;way 1 0;";
             way(Due.rock(text, 4), 0, 3, 3, 1, 3, 3);
@@ -416,6 +420,11 @@ public final class EdgeTests {
         Due.is("from end to end", y.mail(0, 7, 0), 7);
         Due.is("and back", y.mail(7, 0, 1), 7);
         Due.is("the longer half", y.mail(3, 7, 0), 4);
+        // each second PLACE but once in 12: a PERIOD for each two ways
+        TumblingRock v = Due.rock("turn 10,10;" + row(11, "8", "8").replace(";", ",10;") + "place 10 9 9;place 9 10 9;".repeat(4)
+            + line.substring(line.indexOf("way")), 8);
+        Due.is("almost four PERIODS", v.mail(0, 7, 0), 47);
+        Due.is("four PERIODS", v.mail(0, 7, 11), 48);
         // LIT where both others peak, once in 132
         TumblingRock z = Due.rock("turn 18,18;turn 0" + ",0".repeat(10) + ",18;turn 0" + ",0".repeat(9) + ",18;place 10 9 9;place 8 10 10;way 0 1;", 2);
         Due.is("it stays 130", z.mail(0, 1, 0), 131);
@@ -502,8 +511,10 @@ public final class EdgeTests {
             Due.is("WRONG", x.judge(0), NONE);
             Due.is("LIGHT", x.judge(1), 0);
             Due.is("once more", x.tear(), 0);
-            x.see(0, 0, true);
+            x.see(0, 1, true);
+            Due.is("the first that FITS", x.fits(0, 0), 3);
             Due.is("SEEN alone", x.tear(), 1);
+            Due.is("the first of all", x.fits(0, 0), 0);
             x.write(0);
             x.write(0);
             Due.is("THE BOOK alone", x.tear(), 2);
@@ -698,6 +709,9 @@ public final class EdgeTests {
         });
         Due.edge("WRONG: the first PLACE (from the second on) to which no way leads from the one ahead, and which is another one; NONE;", () -> {
             judged("empty", NONE, 0);
+            TumblingRock x = rockAsTold();
+            x.knock(0, 1);
+            Due.is("empty, behind a knock", x.judge(1), 0);
             judged("one alone, not where THE FARM is", NONE, 0, 3);
             judged("it stays where no way leads", NONE, 1, 3, 3);
             judged("all by ways", NONE, 3, 2, 1, 0, 1, 2, 1);

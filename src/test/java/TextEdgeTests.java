@@ -169,7 +169,9 @@ public final class TextEdgeTests {
         Due.edge("words are letters a .. z side by side", () -> {
             Due.fault("turna 0,0;", 1, 0);
             Due.fault("turnz 0,0;", 1, 0);
-            Due.fault("zturn 0,0;", 1, 0);
+            for (String word : new String[] {"zturn", "xurn", "tur", "turm", "xlace", "plac", "placf", "xay", "wa", "waz", "xush", "pus", "pusi"}) {
+                Due.fault(word + " 0,0;", 1, 0);
+            }
             for (char other : new char[] {'`', '{', 'A', 'Z', '_', '0' - 1, 225}) Due.fault("turn" + other + " 0,0;", 1, 4);
             Due.fault("TURN 0,0;", 1, 0);
         });
@@ -363,7 +365,11 @@ public final class TextEdgeTests {
             Due.is("rock()", x.rock(), 1);
             Due.is("told(4)", x.told(4), 0);
             Due.is("rock() again: of an empty text", x.rock(), 0);
+            Due.feed(x, "place 9 9 9");
+            Due.is("an old ';' is not read on", x.rock(), -11);
+            Due.is("fault(): the end", x.fault(), 11);
         });
+        Due.edge("becomes THE ROCK", TextEdgeTests::rockByRock);
         Due.edge("(SHIFTS 0, STEP 0, LIGHT 0; nothing SEEN, no BOOK; IMAGES are gone; THE SEED stays)", TextEdgeTests::anew);
         Due.edge("-10 less the number of its FAULT (all else is as it was)", () -> {
             String[] texts = {"x", "turn 19,0;", PUSH.repeat(5), PLACE + "way 0 0;"};
@@ -382,6 +388,26 @@ public final class TextEdgeTests {
                 Due.is("goBack(1)", x.goBack(1), -1000000003);
             }
         });
+    }
+
+    /** Nothing of an earlier ROCK, nor of a text with a FAULT, is left in a later one. */
+    private static void rockByRock() {
+        TumblingRock x = new TumblingRock();
+        String most = TURN.repeat(3) + twelveWays() + PUSH.repeat(4);
+        for (int round = 0; round < 6; round++) {
+            Due.feed(x, most + (round % 2 == 0 ? "" : "x"));
+            Due.is("rock() of the most", x.rock(), round % 2 == 0 ? 8 : -11);
+            int[] want = {3, 8, 12, 4, 0, 2};
+            for (int w = 0; w < want.length; w++) Due.is("the most: told(" + w + ")", x.told(w), want[w]);
+            if (round < 3) continue;
+            Due.feed(x, PLACE.repeat(2) + PUSH);
+            Due.is("rock() of less", x.rock(), 2);
+            int[] less = {0, 2, 0, 1, 0, 1};
+            for (int w = 0; w < less.length; w++) Due.is("less: told(" + w + ")", x.told(w), less[w]);
+            for (int p = 0; p < 2; p++) Due.is("less: ways of " + p, x.place(p, 3), 0);
+            Due.feed(x, most);
+            Due.is("rock() of the most again", x.rock(), 8);
+        }
     }
 
     /** PLACE 0 is LIT at even STEPS, PLACE 1 at odd ones; behind the knock the other way round. */
